@@ -280,7 +280,7 @@ public final class MappedProcessor {
         }
 
         boolean has(int s, int bits) {
-            return (read(s) & bits) != 0;
+            return (specials[s & 63] & bits) != 0;
         }
 
         int latestVector() {
@@ -302,7 +302,7 @@ public final class MappedProcessor {
 
         /** PC changes only here, so that a whole step sees the PC of its instruction. */
         void finish() {
-            specials[PC] = next & ~3;
+            specials[PC] = next;
         }
 
         void goTo(int address) {

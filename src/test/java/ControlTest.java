@@ -33,6 +33,8 @@ public final class ControlTest {
         Bench bench = new Bench(check).reg(3, 0x12345678).spec(Bench.CR, 0x89ABCDEF);
         bench.run(0, Code.ext(144, 3, 0, 0) | fields << 12 | fields & 1).isReg(what, 3, 0x12345678);
         bench.isSpec(what, Bench.CR, 0x89ABCDEF & ~mask | 0x12345678 & mask);
+        bench.spec(Bench.CR, 0x89ABCDEF).run(0, Code.ext(144, 3, 0, 0) | fields << 12 | 1 << 20 | 1 << 11);
+        bench.isSpec(what + " and the bits beside", Bench.CR, 0x89ABCDEF & ~mask | 0x12345678 & mask);
     }
 
     private void machineState() {

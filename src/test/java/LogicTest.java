@@ -171,6 +171,7 @@ public final class LogicTest {
         rotation(20, 8, 24, 7, 0x65111187, 0x11111111);
         rotation(20, 0, 0, 31, D, -1);
         rotation(23, 8, 0, 31, 0x65F00F87, 0);
+        rotation(23, 31, 0, 31, 0xC3B2F807, 0);
         rotation(23, 40, 0, 31, 0x65F00F87, 0);
         rotation(23, -24, 16, 23, 0x00000F00, 0);
         rotation(23, 32, 0, 31, D, 0);

@@ -16,6 +16,7 @@ public final class MappedStepTest {
         test.marks();
         test.fetchMarks();
         test.blocksMarkNothing();
+        test.laterStepsMarkNothing();
         test.fetchRefused();
         test.dataRefused();
         test.refusalMarksNothing();
@@ -35,7 +36,8 @@ public final class MappedStepTest {
     private void marks() {
         for (int op : new int[] {32, 34, 40, 42}) {
             Bench bench = bench(Bench.DR, 0x7002).mem(0x7000, 0x01020304).run(256, Code.imm(op, 6, 4, 0));
-            bench.isMem("OP " + op, ENTRY, 0x7002 | USED).isReg("OP " + op, 6, op == 32 ? 0x01020304 : op == 34 ? 1 : 0x0102);
+            bench.isMem("OP " + op, ENTRY, 0x7002 | USED);
+            bench.isReg("OP " + op, 6, op == 32 ? 0x01020304 : op == 34 ? 1 : 0x0102);
         }
         for (int op : new int[] {36, 38, 44}) {
             Bench bench = bench(Bench.DR, 0x7002).run(256, Code.imm(op, 3, 4, 0));
@@ -63,6 +65,16 @@ public final class MappedStepTest {
         Bench bench = bench(Bench.IR | Bench.DR, 0x7002).spec(16, 2).spec(17, 2).spec(24, 0x20000002).spec(25, 0x6002);
         bench.run(256, Code.imm(36, 3, 4, 8)).isMem("by a block", 0x6008, 0x99AABBCC);
         bench.isMem("by a block", ENTRY, 0x7002);
+    }
+
+    /** An entry that an earlier translation marked is not marked anew by one that does not use it. */
+    private void laterStepsMarkNothing() {
+        Bench bench = bench(Bench.DR, 0x7002).run(256, Code.imm(36, 3, 4, 0)).mem(ENTRY, 0x7002);
+        bench.run(256, Code.imm(14, 6, 0, 1)).isMem("a fetch that is not translated", ENTRY, 0x7002);
+        bench.run(256, Code.imm(32, 6, 4, 0)).mem(ENTRY, 0x7002).spec(24, 0x20000002).spec(25, 0x6002);
+        bench.run(256, Code.imm(36, 3, 4, 0)).isMem("a store by a block", ENTRY, 0x7002);
+        bench.spec(24, 0).p.translate(0x20000000, 2);
+        bench.run(256, Code.imm(14, 6, 0, 1)).isMem("a step after translate", ENTRY, 0x7002);
     }
 
     private void fetchRefused() {

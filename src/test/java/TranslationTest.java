@@ -162,6 +162,8 @@ public final class TranslationTest {
             bench.spec(32 + k, 7 | 15 << 24 & ~(1 << 28));
             at("bits 27 to 24 do not count", bench, e, FETCH, 0x5014);
         }
+        Bench zero = bench(Bench.DR).spec(Bench.SDR1, TABLE).mem(TABLE, first(0, 0)).mem(TABLE + 4, 0x5002);
+        at("a segment that is 0", zero, 0x14, LOAD, 0x5014);
     }
 
     private void pageAddresses() {
