@@ -18,8 +18,8 @@ public final class BranchTest {
     private void jump(int from, int low, int to, int link) {
         String what = "OP 18 from " + from + " by " + low;
         Bench bench = new Bench(check).spec(Bench.LR, 9).spec(Bench.CTR, 5).spec(Bench.CR, -1);
-        bench.run(from, Code.jump(low)).isSpec(what, Bench.PC, to).isSpec(what, Bench.LR, link).isSpec(what, Bench.CTR, 5);
-        bench.isSpec(what, Bench.CR, -1);
+        bench.run(from, Code.jump(low)).isSpec(what, Bench.PC, to).isSpec(what, Bench.LR, link);
+        bench.isSpec(what, Bench.CTR, 5).isSpec(what, Bench.CR, -1);
     }
 
     private void jumps() {
