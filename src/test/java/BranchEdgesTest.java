@@ -130,16 +130,25 @@ public final class BranchEdgesTest {
     /** "if bit 4 of D is 0, it is taken only if CR bit A is equal to bit 3 of D." */
     private void conditionAsked() {
         for (int a : new int[] {0, 1, 15, 16, 30, 31}) {
-            int alone = 1 << 31 - a;
-            twins("bit " + a + " asked for 1, is 1").spec(Bench.CR, alone).run(Code.imm(16, 12, a, 64))
-                    .dueSpec(Bench.PC, Twins.START + 64).same();
-            twins("bit " + a + " asked for 1, is 0").spec(Bench.CR, ~alone).run(Code.imm(16, 12, a, 64)).same();
-            twins("bit " + a + " asked for 0, is 0").spec(Bench.CR, ~alone).run(Code.imm(16, 4, a, 64))
-                    .dueSpec(Bench.PC, Twins.START + 64).same();
-            twins("bit " + a + " asked for 0, is 1").spec(Bench.CR, alone).run(Code.imm(16, 4, a, 64)).same();
-            twins("bit " + a + " not asked").spec(Bench.CR, ~alone).run(Code.imm(16, 28, a, 64))
-                    .dueSpec(Bench.PC, Twins.START + 64).same();
+            for (int others = 0; others < 4; others++) {
+                conditionAsked(a, others);
+            }
         }
+    }
+
+    /** With the lowest two bits of D as told, which do not count here. */
+    private void conditionAsked(int a, int others) {
+        int alone = 1 << 31 - a;
+        twins("bit " + a + " asked for 1, is 1").spec(Bench.CR, alone).run(Code.imm(16, 12 | others, a, 64))
+                .dueSpec(Bench.PC, Twins.START + 64).same();
+        twins("bit " + a + " asked for 1, is 0").spec(Bench.CR, ~alone).run(Code.imm(16, 12 | others, a, 64)).same();
+        twins("bit " + a + " asked for 0, is 0").spec(Bench.CR, ~alone).run(Code.imm(16, 4 | others, a, 64))
+                .dueSpec(Bench.PC, Twins.START + 64).same();
+        twins("bit " + a + " asked for 0, is 1").spec(Bench.CR, alone).run(Code.imm(16, 4 | others, a, 64)).same();
+        twins("bit " + a + " not asked").spec(Bench.CR, ~alone).run(Code.imm(16, 28 | others, a, 64))
+                .dueSpec(Bench.PC, Twins.START + 64).same();
+        twins("bit " + a + " not asked").spec(Bench.CR, alone).run(Code.imm(16, 20 | others, a, 64))
+                .dueSpec(Bench.PC, Twins.START + 64).same();
     }
 
     /** Both are asked: CTR goes down even when the CR bit forbids the branch. */

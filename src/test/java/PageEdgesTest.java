@@ -34,6 +34,8 @@ public final class PageEdgesTest {
         test.marksOfSteps();
         test.marksOfSecondGroup();
         test.refusedMarksNothing();
+        test.otherTranslationsMarkNothing();
+        test.endOfPage();
         test.marksComeFirst();
         test.fetchMarkComesFirst();
         test.check.end();
@@ -359,6 +361,26 @@ public final class PageEdgesTest {
                 .failStep(1024, 1 << 27).same();
         twins("not aligned", Bench.DR, 0x7002).fail(Code.imm(36, 3, 4, 2), 1536, 0)
                 .dueSpec(Bench.DAR, 0x20000002).same();
+    }
+
+    /** "when a step makes this translation": not one by a block, not none at all, and not the call translate. */
+    private void otherTranslationsMarkNothing() {
+        twins("by a block", Bench.DR, 0x7002).run(Code.imm(36, 3, 4, 0)).dueMem(0x7000, 0x99AABBCC)
+                .mem(TABLE + 4, 0x7002).spec(24, 0x20000002).spec(25, 0x6002).run(Code.imm(36, 3, 4, 0))
+                .dueMem(0x6000, 0x99AABBCC).same();
+        twins("no translation", Bench.DR, 0x7002).run(Code.imm(36, 3, 4, 0)).dueMem(0x7000, 0x99AABBCC)
+                .mem(TABLE + 4, 0x7002).spec(Bench.MSR, 0).run(Code.imm(36, 3, 4, 4)).dueMem(4, 0x99AABBCC).same();
+        Twins after = twins("after translate", Bench.DR, 0x7002);
+        check.due("translate before a step", after.made.translate(0x20000000, STORE), 0x7000);
+        after.run(Code.imm(14, 3, 0, 8)).dueReg(3, 8).same();
+    }
+
+    /** The last word of a page is mapped, and the step behind it asks for the page that follows. */
+    private void endOfPage() {
+        twins("last word, then the next page", Bench.IR, 0x7002).spec(Bench.SDR1, TABLE | 15)
+                .mem(TABLE, 0).mem(TABLE + 64 * 5, first(5, 0)).mem(TABLE + 64 * 5 + 4, 0x7002)
+                .mem(0x7FFC, Code.imm(14, 3, 0, 8)).spec(Bench.PC, 0x20000FFC).step().dueReg(3, 8)
+                .dueMem(TABLE + 64 * 5 + 4, 0x7102).failStep(1024, 1 << 30).same();
     }
 
     /** "before what is at the address is read or written.": the entry maps the page in which it stands. */
