@@ -561,6 +561,7 @@ public final class MappedProcessor {
     /** The instructions that add, subtract, multiply and divide. */
     private static final class Arithmetic {
         private static final long UNSIGNED = 4294967295L;
+        private static final int LEAST = 1 << 31;
 
         private final State state;
 
@@ -644,7 +645,7 @@ public final class MappedProcessor {
         }
 
         private static int quotient(int a, int b) {
-            return b == 0 || a == Integer.MIN_VALUE && b == -1 ? 0 : a / b;
+            return b == 0 || a == LEAST && b == -1 ? 0 : a / b;
         }
 
         /** A difference x - y is the sum of ~y, x and 1, which has the carry that the document asks. */
